@@ -199,7 +199,7 @@ public final class HoundLicence {
             return UNKNOWN;
         }
         ahead.look(law, town, dog);
-        return ahead.fewestHours(town.dogStreet[dog], town.rivalStreets(law, dog));
+        return law.hasRival(dog) ? NONE : ahead.fewestHours(town.dogStreet[dog]);
     }
 
     public int heir(int dog) {
@@ -428,6 +428,16 @@ public final class HoundLicence {
             return false;
         }
 
+        /** Whether there is another of its rank: that one's street stays closed to it for good. */
+        boolean hasRival(int dog) {
+            for (int other = 0; other < dogs; other++) {
+                if (other != dog && rank[other] == rank[dog]) {
+                    return true;
+                }
+            }
+            return false;
+        }
+
         /** How many steps of parent or child lie between two dogs; NONE: they are no kin. */
         int degree(int dog, int other) {
             int up = dog;
@@ -584,19 +594,12 @@ public final class HoundLicence {
             }
             return NONE;
         }
-
-        int rivalStreets(Law law, int dog) {
-            int bits = 0;
-            for (int other = 0; other < law.dogs; other++) {
-                if (other != dog && law.rank[other] == law.rank[dog]) {
-                    bits |= 1 << dogStreet[other];
-                }
-            }
-            return bits;
-        }
     }
 
-    /** Reads a text byte by byte into a law and a town of its own. */
+    /**
+     * Reads a text byte by byte into a law and a town of its own. Nothing ever happens in that
+     * town: no hour passes there, nobody is leashed, no bones are paid.
+     */
     private static final class Reader {
         private static final int HEAD = 'L', DOG = 'D', MAN = 'M', PARENT = 'P';
         private static final int START = 0, BETWEEN = 1;
@@ -610,8 +613,6 @@ public final class HoundLicence {
 
         int firstFault(int[] text, int length) {
             law.clear();
-            town.hour = 0;
-            town.leashed = 0;
             part = START;
             for (int at = 0; at < length && at < text.length; at++) {
                 if (!takes(text[at])) {
@@ -695,7 +696,6 @@ public final class HoundLicence {
             }
             law.room[dog] = figure;
             law.parent[dog] = NONE;
-            town.bones[dog] = 0;
             law.dogs++;
             return figure >= 1 && figure <= 3;
         }
@@ -715,7 +715,6 @@ public final class HoundLicence {
                 town.manStreet[man] = figure;
                 return law.hasDog(dog) ? figure == town.dogStreet[dog] : isStreet(figure);
             }
-            town.sentence[man] = 0;
             law.men++;
             law.singers |= figure == 1 ? 1 << man : 0;
             return figure == 0 || figure == 1;
@@ -872,17 +871,14 @@ public final class HoundLicence {
             return way;
         }
 
-        int fewestHours(int from, int rivals) {
-            if ((rivals >> from & 1) == 1) {
-                return NONE;
-            }
+        int fewestHours(int from) {
             clearNext();
             reachedNext[from] = 1 << (1 << from);
             for (int step = 0; step < MOST_STEPS; step++) {
                 swap();
                 clearNext();
                 for (int street = 0; street < STREETS; street++) {
-                    spread(step, street, rivals);
+                    spread(step, street);
                 }
                 if (allReached()) {
                     return step + 1;
@@ -903,10 +899,10 @@ public final class HoundLicence {
             reachedNext = old;
         }
 
-        private void spread(int step, int street, int rivals) {
-            for (int way = STAYS; way <= BACK && reached[street] != 0; way++) {
+        private void spread(int step, int street) {
+            for (int way = STAYS; way <= BACK; way++) {
                 int next = streetBy(street, way);
-                if (next != peril[step] && (rivals >> next & 1) == 0) {
+                if (reached[street] != 0 && next != peril[step]) {
                     reachedNext[next] |= withStreet(reached[street], next);
                 }
             }

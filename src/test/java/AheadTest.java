@@ -117,6 +117,14 @@ public final class AheadTest {
         routes(x, 1, 0, 1, 0);
         routes(x, 2, 0, 0, Due.NONE);
         routes(x, 2, 1, 2, 1);
+        HoundLicence y = Due.under("L060000D001M000");
+        routes(y, 6, 0, 141 + 6 + 6, 0);
+        routes(y, 7, 0, 0, Due.NONE);
+        Due.hours(y, 5);
+        routes(y, 1, 0, 1, 0);
+        routes(y, 2, 0, 0, Due.NONE);
+        HoundLicence z = Due.under("L000000D001D001M100");
+        routes(z, 1, 0, 1, 0);
     }
 
     private static void routesLeaveAllElse() {
@@ -152,6 +160,9 @@ public final class AheadTest {
         aired("L120000D001D301", Due.NONE);
         aired("L120000D001D311", 4);
         aired("L120000D001D311D321D401", Due.NONE);
+        HoundLicence x = Due.under("L120000D001D301D311");
+        Due.is("aired(1), whose rival is told ahead", x.aired(1), Due.NONE);
+        Due.is("aired(2)", x.aired(2), 4);
     }
 
     private static void airedPastTheWarden() {
@@ -227,6 +238,9 @@ public final class AheadTest {
             Due.is("pays(" + row[0] + ", " + row[1] + ")", x.pays(row[0], row[1]), row[2]);
         }
         Due.that("pays changes nothing", before.equals(Due.all(x)));
+        HoundLicence z = Due.under("L121000D001M001");
+        Due.is("pays(12, 1) with THE WARDEN elsewhere", z.pays(12, 1), 0);
+        Due.is("pays(12, 2)", z.pays(12, 2), 2);
         HoundLicence y = Due.under("L000000D001D011M001M100");
         Due.is("hour()", y.hour(), 3);
         Due.is("pays(0, 3) from now on", y.pays(0, 3), 0);

@@ -252,6 +252,14 @@ public final class LawTest {
         Due.is("ordain() without men", x.ordain(), 20);
         Due.is("a parent is forgotten", x.dog(1, 5), Due.NONE);
         Due.is("about(9)", x.about(9), 1);
+        x.wipe();
+        Due.write(x, "L120000D001M001");
+        Due.is("ordain() of one that sings", x.ordain(), 11);
+        x.wipe();
+        Due.write(x, "L120000D001M000");
+        Due.is("ordain() of one that does not", x.ordain(), 11);
+        Due.is("man(0, 2)", x.man(0, 2), 0);
+        Due.is("hour()", x.hour(), 0);
     }
 
     private static void ordainRefused() {

@@ -76,13 +76,13 @@ public final class SeenTest {
         Due.is("walks(): at odds", x.walks(), 0);
         for (int t = 0; t <= 11; t++) {
             for (int street = 0; street < 5; street++) {
-                HoundLicence odd = Due.under("L120000D312M-00");
-                odd.see(0, street, t);
-                int due = (street == (3 + t) % 5 ? 1 : 0) + (street == 0 ? 1 : 0);
-                Due.is("walks() with a DOG of odd RANK at " + street + " by " + t, odd.walks(), due);
-                HoundLicence even = Due.under("L120000D382M-00");
-                even.see(0, street, t);
-                Due.is("walks() with a DOG of even RANK at " + street, even.walks(), street % 3 == 0 ? 1 : 0);
+                for (int rank = 0; rank <= 9; rank++) {
+                    HoundLicence y = Due.under("L120000D3" + rank + "2M-00");
+                    y.see(0, street, t);
+                    int with = rank % 2 == 1 ? (3 + t) % 5 : 3;
+                    int due = (street == with ? 1 : 0) + (street == 0 ? 1 : 0);
+                    Due.is("walks() at " + street + " by " + t + ", RANK " + rank, y.walks(), due);
+                }
             }
         }
     }
