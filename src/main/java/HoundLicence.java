@@ -602,6 +602,7 @@ public final class HoundLicence {
      */
     private static final class Reader {
         private static final int HEAD = 'L', DOG = 'D', MAN = 'M', PARENT = 'P';
+        private static final int HEAD_BYTES = 7, DOG_BYTES = 4, MAN_BYTES = 4, PARENT_BYTES = 3;
         private static final int START = 0, BETWEEN = 1;
 
         final Law law = new Law();
@@ -626,10 +627,10 @@ public final class HoundLicence {
             switch (part) {
                 case START: return letter == HEAD && opens(letter);
                 case BETWEEN: return mayOpen(letter) && opens(letter);
-                case HEAD: return goesOn(takesHead(figure(letter)), 7);
-                case DOG: return goesOn(takesDog(figure(letter)), 4);
-                case MAN: return goesOn(takesMan(letter), 4);
-                default: return goesOn(takesParent(figure(letter)), 3);
+                case HEAD: return goesOn(takesHead(figure(letter)), HEAD_BYTES);
+                case DOG: return goesOn(takesDog(figure(letter)), DOG_BYTES);
+                case MAN: return goesOn(takesMan(letter), MAN_BYTES);
+                default: return goesOn(takesParent(figure(letter)), PARENT_BYTES);
             }
         }
 
@@ -677,7 +678,7 @@ public final class HoundLicence {
                 law.leash += figure;
                 return law.leash <= CLOCK;
             }
-            law.round[(place - 3) & 3] = figure;
+            law.round[Math.floorMod(place - 3, ROUND)] = figure;
             return isStreet(figure);
         }
 
