@@ -101,13 +101,14 @@ public final class PlainTest {
         Due.is("run " + run + ", call " + calls + ": " + call, got, want);
     }
 
-    /** A number of 0 .. most, seldom one beside them. */
+    /** A number of 0 .. most, seldom one beside them, or one far off. */
     private int upTo(int most) {
-        int kind = random.nextInt(40);
-        if (kind == 0) {
-            return -1;
+        switch (random.nextInt(50)) {
+            case 0: return -1;
+            case 1: return most + 1;
+            case 2: return random.nextBoolean() ? Integer.MIN_VALUE : Integer.MAX_VALUE;
+            default: return random.nextInt(most + 1);
         }
-        return kind == 1 ? most + 1 : random.nextInt(most + 1);
     }
 
     private int upTo(int least, int most) {
