@@ -981,19 +981,19 @@ public final class HoundLicence {
         }
 
         int ways(Law law) {
-            return share(law, 0);
+            return share(law, may, roomLeft, 0);
         }
 
         /** In how many ways the men from this one on can have been shared out. */
-        private int share(Law law, int next) {
+        private static int share(Law law, int[] may, int[] roomLeft, int next) {
             if (!law.hasMan(next)) {
                 return 1;
             }
-            int sum = (may[next] >> NOBODY & 1) == 1 ? share(law, next + 1) : 0;
+            int sum = (may[next] >> NOBODY & 1) == 1 ? share(law, may, roomLeft, next + 1) : 0;
             for (int dog = 0; dog < law.dogs; dog++) {
                 if ((may[next] >> dog & 1) == 1 && roomLeft[dog] > 0) {
                     roomLeft[dog]--;
-                    sum += share(law, next + 1);
+                    sum += share(law, may, roomLeft, next + 1);
                     roomLeft[dog]++;
                 }
             }

@@ -4,7 +4,7 @@ public final class ActsTest {
         lead();
         leash();
         give();
-        giveOfTheImpounded();
+        giveBesideTheImpounded();
         hourBySong();
         hourByLateness();
         hourOfBachelors();
@@ -26,11 +26,6 @@ public final class ActsTest {
         Due.is("man(0, 1)", x.man(0, 1), 3);
         Due.is("ACTS", x.about(8), 3);
         Due.is("THE HOUR", x.about(3), 0);
-        Due.refused("lead(2, 1)", x, () -> x.lead(2, 1), Due.UNKNOWN);
-        Due.refused("lead(-1, 1)", x, () -> x.lead(-1, 1), Due.UNKNOWN);
-        Due.refused("lead(2, 0)", x, () -> x.lead(2, 0), Due.UNKNOWN);
-        Due.refused("lead(0, 0)", x, () -> x.lead(0, 0), Due.BAD);
-        Due.refused("lead(0, 3)", x, () -> x.lead(0, 3), Due.BAD);
     }
 
     private static void leash() {
@@ -42,14 +37,10 @@ public final class ActsTest {
         Due.is("leash(1) again", x.leash(1), 0);
         Due.is("about(5)", x.about(5), 1);
         Due.is("ACTS", x.about(8), 3);
-        Due.refused("leash(3)", x, () -> x.leash(3), Due.UNKNOWN);
-        Due.refused("leash(-1)", x, () -> x.leash(-1), Due.UNKNOWN);
-        Due.refused("leash(2) of a BACHELOR", x, () -> x.leash(2), Due.LATE);
         x.leash(0);
         x.lead(0, 1);
         x.lead(0, 1);
         Due.is("hour()", x.hour(), 1);
-        Due.refused("leash(0) of who is IMPOUNDED", x, () -> x.leash(0), Due.LATE);
         Due.is("leash(1) beside it", x.leash(1), 1);
     }
 
@@ -61,33 +52,20 @@ public final class ActsTest {
         Due.is("leashed as it was", x.man(0, 3), 1);
         Due.is("dog(0, 3)", x.dog(0, 3), 0);
         Due.is("dog(1, 3)", x.dog(1, 3), 3);
-        Due.refused("give(2, 1)", x, () -> x.give(2, 1), Due.FULL);
         Due.is("give(2, 0) of a BACHELOR", x.give(2, 0), Due.NONE);
         Due.is("man(2, 0)", x.man(2, 0), 0);
         Due.is("man(2, 3)", x.man(2, 3), 0);
         Due.is("ACTS", x.about(8), 3);
-        Due.refused("give(4, 0)", x, () -> x.give(4, 0), Due.UNKNOWN);
-        Due.refused("give(-1, 0)", x, () -> x.give(-1, 0), Due.UNKNOWN);
-        Due.refused("give(0, 3)", x, () -> x.give(0, 3), Due.UNKNOWN);
-        Due.refused("give(0, -1)", x, () -> x.give(0, -1), Due.UNKNOWN);
-        Due.refused("give(0, 2) on another STREET", x, () -> x.give(0, 2), Due.LATE);
-        Due.refused("give(0, 1) to its own DOG, that is full", x, () -> x.give(0, 1), Due.LATE);
-        Due.refused("give(3, 1) on another STREET, full", x, () -> x.give(3, 1), Due.LATE);
         Due.is("give(3, 2)", x.give(3, 2), Due.NONE);
         Due.is("it goes along with its new DOG", x.lead(2, 2), 0);
         Due.is("man(3, 1)", x.man(3, 1), 0);
     }
 
-    private static void giveOfTheImpounded() {
+    private static void giveBesideTheImpounded() {
         HoundLicence x = Due.under("L120000D002D001M001M000");
         Due.is("hour()", x.hour(), 1);
-        Due.refused("give(0, 1)", x, () -> x.give(0, 1), Due.LATE);
         Due.is("give(1, 1)", x.give(1, 1), 0);
-        Due.refused("give(0, 1) to a full DOG", x, () -> x.give(0, 1), Due.LATE);
         Due.is("give(1, 0)", x.give(1, 0), 1);
-        HoundLicence y = Due.under("L120000D001D001M001M100");
-        Due.is("hour()", y.hour(), 1);
-        Due.refused("give(1, 0): the IMPOUNDED one is kept", y, () -> y.give(1, 0), Due.FULL);
     }
 
     private static void hourBySong() {
@@ -159,7 +137,6 @@ public final class ActsTest {
 
     private static void undo() {
         HoundLicence x = Due.under("L120000D001M000");
-        Due.refused("undo() of none", x, x::undo, Due.LATE);
         x.lead(0, 1);
         x.hour();
         x.see(0, 0, 0);
@@ -171,27 +148,26 @@ public final class ActsTest {
         Due.is("dog(0, 0)", x.dog(0, 0), 0);
         Due.is("SEEN stays", x.about(9), 1);
         Due.is("THE SEED stays", x.seed(0), 5);
-        Due.refused("undo() of no more", x, x::undo, Due.LATE);
     }
 
     private static void undoOfEachAct() {
         HoundLicence x = Due.under("L120003D003D001M001M000M-40M-00");
         String[] states = new String[7];
-        states[0] = Due.all(x);
+        states[0] = State.acted(x);
         Due.is("leash(1)", x.leash(1), 1);
-        states[1] = Due.all(x);
+        states[1] = State.acted(x);
         Due.is("give(3, 0)", x.give(3, 0), Due.NONE);
-        states[2] = Due.all(x);
+        states[2] = State.acted(x);
         Due.is("hour()", x.hour(), 1);
-        states[3] = Due.all(x);
+        states[3] = State.acted(x);
         Due.is("lead(0, 2)", x.lead(0, 2), 4);
-        states[4] = Due.all(x);
+        states[4] = State.acted(x);
         Due.is("leash(1)", x.leash(1), 0);
-        states[5] = Due.all(x);
+        states[5] = State.acted(x);
         Due.is("hour()", x.hour(), 0);
         for (int left = 5; left >= 0; left--) {
             Due.is("undo()", x.undo(), left);
-            Due.that("as it was behind " + left + " ACTS", states[left].equals(Due.all(x)));
+            Due.same("as it was behind " + left + " ACTS", State.acted(x), states[left]);
         }
     }
 

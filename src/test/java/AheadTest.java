@@ -2,35 +2,29 @@
 public final class AheadTest {
     public static void main(String[] args) {
         caught();
-        caughtRefused();
         routesWithoutMen();
         routesPastTheWarden();
         routesWithWhoIsImpounded();
         routesWhileLate();
         routesLeaveAllElse();
-        routesRefused();
         airedPastRivals();
         airedPastTheWarden();
         airedWithWhoIsImpounded();
-        airedRefused();
         heir();
-        heirRefused();
         pays();
-        paysRefused();
         spans();
-        spansRefused();
         Due.end();
     }
 
     private static void caught() {
         HoundLicence x = Due.under("L051234D001D102M000M111M-40");
-        String before = Due.all(x);
+        String before = State.all(x);
         int[] due = {0, 2, 2, 2, 6, 6};
         for (int n = 0; n < due.length; n++) {
             Due.is("caught(" + n + ")", x.caught(n), due[n]);
         }
         Due.is("caught(24)", x.caught(24), 6);
-        Due.that("caught changes nothing", before.equals(Due.all(x)));
+        Due.same("caught changes nothing", State.all(x), before);
         x.hour();
         int[] dueThen = {0, 0, 0, 4, 6};
         for (int n = 0; n < dueThen.length; n++) {
@@ -43,13 +37,6 @@ public final class AheadTest {
         Due.is("caught(24) of one that is leashed", y.caught(24), 1);
     }
 
-    private static void caughtRefused() {
-        HoundLicence x = Due.under("L000000D001M001");
-        Due.refused("caught(-1)", x, () -> x.caught(-1), Due.BAD);
-        Due.refused("caught(25)", x, () -> x.caught(25), Due.BAD);
-        Due.refused("caught(MAX)", x, () -> x.caught(Integer.MAX_VALUE), Due.BAD);
-    }
-
     private static void routes(HoundLicence x, int n, int street, int many, int first) {
         String call = "routes(0, " + n + ", " + street + ", ";
         Due.is(call + "0)", x.routes(0, n, street, 0), many);
@@ -58,7 +45,7 @@ public final class AheadTest {
 
     private static void routesWithoutMen() {
         HoundLicence x = Due.under("L120000D001");
-        String before = Due.all(x);
+        String before = State.all(x);
         routes(x, 1, 0, 1, 0);
         routes(x, 1, 1, 1, 1);
         routes(x, 1, 2, 0, Due.NONE);
@@ -76,7 +63,7 @@ public final class AheadTest {
             all += x.routes(0, 7, street, 0);
         }
         Due.is("routes of 7 to all STREETS", all, 2187);
-        Due.that("routes change nothing", before.equals(Due.all(x)));
+        Due.same("routes change nothing", State.all(x), before);
         HoundLicence y = Due.under("L120000D401");
         routes(y, 1, 0, 1, 1);
         routes(y, 1, 3, 1, 2);
@@ -134,18 +121,6 @@ public final class AheadTest {
         routes(x, 2, 0, 0, Due.NONE);
     }
 
-    private static void routesRefused() {
-        HoundLicence x = Due.under("L120000D001M001");
-        Due.refused("routes(1, 0, 5, 2)", x, () -> x.routes(1, 0, 5, 2), Due.UNKNOWN);
-        Due.refused("routes(-1, 1, 0, 0)", x, () -> x.routes(-1, 1, 0, 0), Due.UNKNOWN);
-        Due.refused("routes(0, 0, 0, 0)", x, () -> x.routes(0, 0, 0, 0), Due.BAD);
-        Due.refused("routes(0, 8, 0, 0)", x, () -> x.routes(0, 8, 0, 0), Due.BAD);
-        Due.refused("routes(0, 1, -1, 0)", x, () -> x.routes(0, 1, -1, 0), Due.BAD);
-        Due.refused("routes(0, 1, 5, 0)", x, () -> x.routes(0, 1, 5, 0), Due.BAD);
-        Due.refused("routes(0, 1, 0, -1)", x, () -> x.routes(0, 1, 0, -1), Due.BAD);
-        Due.refused("routes(0, 1, 0, 2)", x, () -> x.routes(0, 1, 0, 2), Due.BAD);
-    }
-
     private static void aired(String law, int due) {
         HoundLicence x = Due.under(law);
         Due.is("aired(0) by " + law, x.aired(0), due);
@@ -177,9 +152,9 @@ public final class AheadTest {
         aired("L011300D001M000", 4);
         HoundLicence x = Due.under("L121111D001M001");
         x.leash(0);
-        String before = Due.all(x);
+        String before = State.all(x);
         Due.is("aired(0) with its MAN leashed", x.aired(0), 4);
-        Due.that("aired changes nothing", before.equals(Due.all(x)));
+        Due.same("aired changes nothing", State.all(x), before);
     }
 
     private static void airedWithWhoIsImpounded() {
@@ -195,19 +170,13 @@ public final class AheadTest {
         Due.is("aired(0) from 2, free of 1 for one HOUR", x.aired(0), 4);
     }
 
-    private static void airedRefused() {
-        HoundLicence x = Due.under("L120000D001");
-        Due.refused("aired(1)", x, () -> x.aired(1), Due.UNKNOWN);
-        Due.refused("aired(-1)", x, () -> x.aired(-1), Due.UNKNOWN);
-    }
-
     private static void heirs(String law, int... due) {
         HoundLicence x = Due.under(law);
-        String before = Due.all(x);
+        String before = State.all(x);
         for (int dog = 0; dog < due.length; dog++) {
             Due.is("heir(" + dog + ") by " + law, x.heir(dog), due[dog]);
         }
-        Due.that("heir changes nothing", before.equals(Due.all(x)));
+        Due.same("heir changes nothing", State.all(x), before);
     }
 
     private static void heir() {
@@ -223,21 +192,15 @@ public final class AheadTest {
         heirs("L120000D001D001D001D001P01P32", 1, 0, 3, 2);
     }
 
-    private static void heirRefused() {
-        HoundLicence x = Due.under("L120000D001D001P01");
-        Due.refused("heir(2)", x, () -> x.heir(2), Due.UNKNOWN);
-        Due.refused("heir(-1)", x, () -> x.heir(-1), Due.UNKNOWN);
-    }
-
     private static void pays() {
         HoundLicence x = Due.under("L120000D002M000M000M-00");
-        String before = Due.all(x);
+        String before = State.all(x);
         int[][] due = {{12, 24, 0}, {0, 0, 0}, {0, 1, 4}, {0, 4, 4}, {0, 5, 8}, {2, 2, 0}, {2, 3, 4}, {0, 24, 24},
             {11, 11, 0}, {11, 12, 4}, {11, 24, 8}};
         for (int[] row : due) {
             Due.is("pays(" + row[0] + ", " + row[1] + ")", x.pays(row[0], row[1]), row[2]);
         }
-        Due.that("pays changes nothing", before.equals(Due.all(x)));
+        Due.same("pays changes nothing", State.all(x), before);
         HoundLicence z = Due.under("L121000D001M001");
         Due.is("pays(12, 1) with THE WARDEN elsewhere", z.pays(12, 1), 0);
         Due.is("pays(12, 2)", z.pays(12, 2), 2);
@@ -248,17 +211,9 @@ public final class AheadTest {
         Due.is("pays(12, 4) by song alone", y.pays(12, 4), 2);
     }
 
-    private static void paysRefused() {
-        HoundLicence x = Due.under("L000000D001M001");
-        Due.refused("pays(-1, 0)", x, () -> x.pays(-1, 0), Due.BAD);
-        Due.refused("pays(13, 0)", x, () -> x.pays(13, 0), Due.BAD);
-        Due.refused("pays(0, -1)", x, () -> x.pays(0, -1), Due.BAD);
-        Due.refused("pays(0, 25)", x, () -> x.pays(0, 25), Due.BAD);
-    }
-
     private static void spans() {
         HoundLicence x = new HoundLicence();
-        String before = Due.all(x);
+        String before = State.all(x);
         int[] due = {1, 1, 0, 1, 0, 1, 1, 0, 1, 0};
         for (int t = 0; t < due.length; t++) {
             Due.is("spans(2, 3, " + t + ")", x.spans(2, 3, t), due[t]);
@@ -271,22 +226,14 @@ public final class AheadTest {
         Due.is("spans(1, 9, 99)", x.spans(1, 9, 99), 0);
         for (int a = 1; a <= 9; a++) {
             for (int b = 1; b <= 9; b++) {
+                HoundLicence y = new HoundLicence();
                 int firsts = 0;
                 for (int t = 0; t < a + b; t++) {
-                    firsts += x.spans(a, b, t) == 0 ? 1 : 0;
+                    firsts += y.spans(a, b, t) == 0 ? 1 : 0;
                 }
                 Due.is("spans of the first one by " + a + " to " + b, firsts, a);
             }
         }
-        Due.that("spans changes nothing", before.equals(Due.all(x)));
-    }
-
-    private static void spansRefused() {
-        HoundLicence x = new HoundLicence();
-        int[][] bad = {{0, 1, 0}, {10, 1, 0}, {1, 0, 0}, {1, 10, 0}, {1, 1, -1}, {1, 1, 100}, {-1, 1, 0}, {1, -1, 0}};
-        for (int[] row : bad) {
-            Due.refused("spans(" + row[0] + ", " + row[1] + ", " + row[2] + ")", x,
-                () -> x.spans(row[0], row[1], row[2]), Due.BAD);
-        }
+        Due.same("spans changes nothing", State.all(x), before);
     }
 }

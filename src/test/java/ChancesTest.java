@@ -4,14 +4,11 @@ import java.math.BigInteger;
 public final class ChancesTest {
     public static void main(String[] args) {
         rests();
-        restsRefused();
         chance();
         chanceOfLateHours();
-        chanceRefused();
         seed();
         days();
         daysOfTheSeed();
-        daysRefused();
         Due.end();
     }
 
@@ -19,7 +16,7 @@ public final class ChancesTest {
         HoundLicence x = new HoundLicence();
         Due.is("rests(" + row + ", 0)", x.rests(row, 0), many);
         Due.is("rests(" + row + ", 1)", x.rests(row, 1), first);
-        Due.that("rests changes nothing", Due.all(x).equals(Due.all(new HoundLicence())));
+        Due.same("rests changes nothing", State.all(x), State.all(new HoundLicence()));
     }
 
     private static void rests() {
@@ -35,14 +32,6 @@ public final class ChancesTest {
         rests(50001, 0, Due.NONE);
     }
 
-    private static void restsRefused() {
-        HoundLicence x = new HoundLicence();
-        Due.refused("rests(-1, 0)", x, () -> x.rests(-1, 0), Due.BAD);
-        Due.refused("rests(100000, 0)", x, () -> x.rests(100000, 0), Due.BAD);
-        Due.refused("rests(0, -1)", x, () -> x.rests(0, -1), Due.BAD);
-        Due.refused("rests(0, 2)", x, () -> x.rests(0, 2), Due.BAD);
-    }
-
     private static void chance(HoundLicence x, int man, int n, int above, int below) {
         Due.is("chance(" + man + ", " + n + ", true)", x.chance(man, n, true), above);
         Due.is("chance(" + man + ", " + n + ", false)", x.chance(man, n, false), below);
@@ -50,7 +39,7 @@ public final class ChancesTest {
 
     private static void chance() {
         HoundLicence x = Due.under("L121234M-20M-00");
-        String before = Due.all(x);
+        String before = State.all(x);
         chance(x, 0, 0, 0, 1);
         chance(x, 0, 1, 1, 4);
         chance(x, 0, 2, 1, 2);
@@ -58,7 +47,7 @@ public final class ChancesTest {
         chance(x, 0, 4, 1, 1);
         chance(x, 0, 24, 1, 1);
         chance(x, 1, 24, 0, 1);
-        Due.that("chance changes nothing", before.equals(Due.all(x)));
+        Due.same("chance changes nothing", State.all(x), before);
         x.hour();
         x.hour();
         Due.is("IMPOUNDED", x.about(6), 1);
@@ -74,14 +63,6 @@ public final class ChancesTest {
         chance(x, 0, 1, 0, 1);
         chance(x, 0, 2, 1, 4);
         chance(x, 0, 3, 1, 2);
-    }
-
-    private static void chanceRefused() {
-        HoundLicence x = Due.under("L120000M-00");
-        Due.refused("chance(1, 25, true)", x, () -> x.chance(1, 25, true), Due.UNKNOWN);
-        Due.refused("chance(-1, 0, false)", x, () -> x.chance(-1, 0, false), Due.UNKNOWN);
-        Due.refused("chance(0, -1, true)", x, () -> x.chance(0, -1, true), Due.BAD);
-        Due.refused("chance(0, 25, false)", x, () -> x.chance(0, 25, false), Due.BAD);
     }
 
     private static void seed() {
@@ -124,12 +105,12 @@ public final class ChancesTest {
         x.hour();
         y.hour();
         x.seed(from);
-        String before = Due.all(x);
+        String before = State.all(x);
         BigInteger[] seed = {BigInteger.valueOf(from).mod(BigInteger.ONE.shiftLeft(64))};
         int due = daysByActs(y, seed, m);
         Due.is("days(" + m + ") by " + law + " from " + from, x.days(m), due);
         Due.is("THE SEED behind it", x.seed(from), seed[0].longValue());
-        Due.that("days change nothing else", before.equals(Due.all(x)));
+        Due.same("days change nothing else", State.all(x), before);
     }
 
     private static void daysOfTheSeed() {
@@ -139,12 +120,5 @@ public final class ChancesTest {
         Due.is("days(30)", x.days(30), 0);
         Due.is("days(1)", x.days(1), 0);
         Due.is("seed(0)", x.seed(0), 3965132133515300738L);
-    }
-
-    private static void daysRefused() {
-        HoundLicence x = Due.under("L000000D001M001");
-        Due.refused("days(0)", x, () -> x.days(0), Due.BAD);
-        Due.refused("days(31)", x, () -> x.days(31), Due.BAD);
-        Due.refused("days(-5)", x, () -> x.days(-5), Due.BAD);
     }
 }

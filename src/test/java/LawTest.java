@@ -1,11 +1,8 @@
-/** Promises 1 to 8: a new object, write, wipe, fault, ordain, about, dog, man. */
+/** Promises 4 to 8: fault, ordain, about, dog, man. */
 public final class LawTest {
     private static final String HEAD = "L120123";
 
     public static void main(String[] args) {
-        newObject();
-        write();
-        wipe();
         faultInHead();
         faultInDogs();
         faultInMen();
@@ -13,56 +10,10 @@ public final class LawTest {
         faultChangesNothing();
         ordain();
         ordainKeepsAndForgets();
-        ordainRefused();
         about();
         dog();
         man();
         Due.end();
-    }
-
-    private static void newObject() {
-        HoundLicence x = new HoundLicence();
-        int[] due = {0, 0, 12, 0, 0, 0, 0, 0, 0, 0, 0};
-        for (int what = 0; what < due.length; what++) {
-            Due.is("new: about(" + what + ")", x.about(what), due[what]);
-        }
-        Due.is("new: dog(0, 0)", x.dog(0, 0), Due.UNKNOWN);
-        Due.is("new: man(0, 0)", x.man(0, 0), Due.UNKNOWN);
-        Due.is("new: seed(0)", x.seed(0), 0);
-        Due.is("new: again(0)", x.again(0), Due.LATE);
-        Due.is("new: again(1)", x.again(1), Due.LATE);
-        Due.is("new: undo()", x.undo(), Due.LATE);
-        Due.is("new: walks()", x.walks(), 1);
-        for (int hour = 0; hour < 5; hour++) {
-            Due.is("new: about(4) at " + hour, x.about(4), 0);
-            Due.is("new: hour()", x.hour(), 0);
-        }
-    }
-
-    private static void write() {
-        HoundLicence x = new HoundLicence();
-        Due.is("write(0)", x.write(0), 1);
-        Due.is("write(255)", x.write(255), 2);
-        Due.refused("write(-1)", x, () -> x.write(-1), Due.BAD);
-        Due.refused("write(256)", x, () -> x.write(256), Due.BAD);
-        Due.refused("write(MIN)", x, () -> x.write(Integer.MIN_VALUE), Due.BAD);
-        for (int length = 3; length <= 60; length++) {
-            Due.is("write(65)", x.write(65), length);
-        }
-        Due.refused("write(65) at 60", x, () -> x.write(65), Due.FULL);
-        Due.refused("write(256) at 60", x, () -> x.write(256), Due.BAD);
-        Due.is("about(10)", x.about(10), 60);
-    }
-
-    private static void wipe() {
-        HoundLicence x = Due.under(HEAD + "D001");
-        Due.is("wipe()", x.wipe(), 11);
-        Due.is("about(10) behind wipe()", x.about(10), 0);
-        Due.is("wipe() again", x.wipe(), 0);
-        Due.is("about(0) behind wipe()", x.about(0), 1);
-        Due.is("fault() behind wipe()", x.fault(), 0);
-        Due.is("write(76) behind wipe()", x.write(76), 1);
-        Due.is("fault() of L behind wipe()", x.fault(), 1);
     }
 
     private static void fault(String text, int due) {
@@ -203,14 +154,13 @@ public final class LawTest {
         x.hour();
         x.wipe();
         Due.write(x, HEAD + "D441D441M14");
-        String before = Due.all(x);
+        String before = State.all(x);
         Due.is("fault() beside a law", x.fault(), 18);
-        Due.that("fault() changes nothing", before.equals(Due.all(x)));
+        Due.same("fault() changes nothing", State.all(x), before);
     }
 
     private static void ordain() {
         HoundLicence x = new HoundLicence();
-        Due.refused("ordain() of nothing", x, x::ordain, Due.LATE);
         Due.write(x, "L031234");
         Due.is("ordain() of a head", x.ordain(), 0);
         Due.is("LEASH", x.about(2), 3);
@@ -262,17 +212,6 @@ public final class LawTest {
         Due.is("hour()", x.hour(), 0);
     }
 
-    private static void ordainRefused() {
-        HoundLicence x = Due.under("L001000D001M000");
-        x.hour();
-        x.hour();
-        x.keep(0);
-        x.write('D');
-        Due.refused("ordain() of a part that is open", x, x::ordain, Due.LATE);
-        Due.is("undo()", x.undo(), 1);
-        Due.is("again(0)", x.again(0), 2);
-    }
-
     private static void about() {
         HoundLicence x = Due.under("L051234D001D102M000M111M-40P01");
         x.see(0, 0, 0);
@@ -288,8 +227,6 @@ public final class LawTest {
         for (int what = 0; what < due.length; what++) {
             Due.is("about(" + what + ")", x.about(what), due[what]);
         }
-        Due.refused("about(11)", x, () -> x.about(11), Due.BAD);
-        Due.refused("about(-1)", x, () -> x.about(-1), Due.BAD);
     }
 
     private static void dog() {
@@ -305,11 +242,6 @@ public final class LawTest {
         Due.is("BONES of 0", x.dog(0, 4), 2);
         Due.is("BONES of 2", x.dog(2, 4), 0);
         Due.is("who is IMPOUNDED is kept all the same", x.dog(0, 3), 3);
-        Due.refused("dog(3, 0)", x, () -> x.dog(3, 0), Due.UNKNOWN);
-        Due.refused("dog(-1, 0)", x, () -> x.dog(-1, 0), Due.UNKNOWN);
-        Due.refused("dog(3, 6)", x, () -> x.dog(3, 6), Due.UNKNOWN);
-        Due.refused("dog(0, 6)", x, () -> x.dog(0, 6), Due.BAD);
-        Due.refused("dog(0, -1)", x, () -> x.dog(0, -1), Due.BAD);
     }
 
     private static void man() {
@@ -328,10 +260,5 @@ public final class LawTest {
             Due.is("man(1, 4)", x.man(1, 4), left);
             Due.is("man(1, 1)", x.man(1, 1), left == 0 ? 0 : 1);
         }
-        Due.refused("man(3, 0)", x, () -> x.man(3, 0), Due.UNKNOWN);
-        Due.refused("man(-1, 0)", x, () -> x.man(-1, 0), Due.UNKNOWN);
-        Due.refused("man(3, 5)", x, () -> x.man(3, 5), Due.UNKNOWN);
-        Due.refused("man(0, 5)", x, () -> x.man(0, 5), Due.BAD);
-        Due.refused("man(0, -1)", x, () -> x.man(0, -1), Due.BAD);
     }
 }

@@ -8,18 +8,11 @@ public final class SeenTest {
         walksByStreetsOfNow();
         walksOfMenThatAreGone();
         sure();
-        sureRefused();
         Due.end();
     }
 
     private static void see() {
         HoundLicence x = Due.under("L120000D001M000M-40");
-        Due.refused("see(2, 5, 12)", x, () -> x.see(2, 5, 12), Due.UNKNOWN);
-        Due.refused("see(-1, 0, 0)", x, () -> x.see(-1, 0, 0), Due.UNKNOWN);
-        Due.refused("see(0, -1, 0)", x, () -> x.see(0, -1, 0), Due.BAD);
-        Due.refused("see(0, 5, 0)", x, () -> x.see(0, 5, 0), Due.BAD);
-        Due.refused("see(0, 0, -1)", x, () -> x.see(0, 0, -1), Due.BAD);
-        Due.refused("see(0, 0, 12)", x, () -> x.see(0, 0, 12), Due.BAD);
         Due.is("see(0, 0, 0)", x.see(0, 0, 0), 1);
         Due.is("see(1, 4, 11)", x.see(1, 4, 11), 2);
         for (int count = 3; count <= 6; count++) {
@@ -27,9 +20,6 @@ public final class SeenTest {
         }
         Due.is("about(9)", x.about(9), 6);
         Due.is("ACTS", x.about(8), 0);
-        Due.refused("see(1, 4, 11) at 6", x, () -> x.see(1, 4, 11), Due.FULL);
-        Due.refused("see(1, 5, 11) at 6", x, () -> x.see(1, 5, 11), Due.BAD);
-        Due.refused("see(2, 4, 11) at 6", x, () -> x.see(2, 4, 11), Due.UNKNOWN);
     }
 
     private static void unsee() {
@@ -48,9 +38,9 @@ public final class SeenTest {
 
     private static void walks(String law, int due) {
         HoundLicence x = Due.under(law);
-        String before = Due.all(x);
+        String before = State.all(x);
         Due.is("walks() by " + law, x.walks(), due);
-        Due.that("walks changes nothing", before.equals(Due.all(x)));
+        Due.same("walks changes nothing", State.all(x), before);
     }
 
     private static void walksByRoom() {
@@ -128,10 +118,10 @@ public final class SeenTest {
         HoundLicence x = Due.under("L120000D011M-00M-00");
         Due.is("sure(0) of nothing SEEN", x.sure(0), Due.NONE);
         x.see(0, 1, 1);
-        String before = Due.all(x);
+        String before = State.all(x);
         Due.is("sure(0)", x.sure(0), 0);
         Due.is("sure(1), for which no room is left", x.sure(1), 9);
-        Due.that("sure changes nothing", before.equals(Due.all(x)));
+        Due.same("sure changes nothing", State.all(x), before);
         x.see(0, 0, 1);
         Due.is("walks()", x.walks(), 0);
         Due.is("sure(0) when there are none", x.sure(0), Due.NONE);
@@ -149,11 +139,5 @@ public final class SeenTest {
         Due.is("walks()", y.walks(), 2);
         HoundLicence z = Due.under("L120000M-00");
         Due.is("sure(0) without DOGS", z.sure(0), 9);
-    }
-
-    private static void sureRefused() {
-        HoundLicence x = Due.under("L120000D001M000");
-        Due.refused("sure(1)", x, () -> x.sure(1), Due.UNKNOWN);
-        Due.refused("sure(-1)", x, () -> x.sure(-1), Due.UNKNOWN);
     }
 }

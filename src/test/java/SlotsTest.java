@@ -8,17 +8,16 @@ public final class SlotsTest {
         againOfAllThatIsKept();
         againTwice();
         nobodyIsKept();
-        refused();
         Due.end();
     }
 
     private static void keep() {
         HoundLicence x = Due.under(LAW);
         Due.hours(x, 2);
-        String before = Due.all(x);
+        String before = State.all(x);
         Due.is("keep(0)", x.keep(0), 2);
         Due.is("keep(1)", x.keep(1), 2);
-        Due.that("keep changes nothing", before.equals(Due.all(x)));
+        Due.same("keep changes nothing", State.all(x), before);
         Due.is("ACTS stay", x.about(8), 2);
         Due.is("undo()", x.undo(), 1);
         Due.is("keep(0) over what was kept", x.keep(0), 1);
@@ -28,14 +27,11 @@ public final class SlotsTest {
 
     private static void again() {
         HoundLicence x = Due.under(LAW);
-        Due.refused("again(0) of none", x, () -> x.again(0), Due.LATE);
         Due.is("keep(1)", x.keep(1), 0);
-        Due.refused("again(0) beside it", x, () -> x.again(0), Due.LATE);
         Due.hours(x, 3);
         Due.is("again(1)", x.again(1), 0);
         Due.is("THE HOUR", x.about(3), 0);
         Due.is("ACTS", x.about(8), 0);
-        Due.refused("undo() behind it", x, x::undo, Due.LATE);
         x.lead(0, 1);
         Due.is("undo() of an ACT behind it", x.undo(), 0);
     }
@@ -65,7 +61,7 @@ public final class SlotsTest {
         y.see(0, 4, 4);
         y.seed(12);
         y.wipe();
-        Due.that("as it was kept", Due.all(x).equals(Due.all(y)));
+        Due.same("as it was kept", State.all(x), State.all(y));
         Due.is("man(1, 3)", x.man(1, 3), 1);
         Due.is("man(0, 4)", x.man(0, 4), 3);
         Due.is("BONES", x.about(7), 2);
@@ -82,12 +78,12 @@ public final class SlotsTest {
         x.keep(1);
         x.hour();
         Due.is("again(0)", x.again(0), 1);
-        String first = Due.all(x);
+        String first = State.all(x);
         x.lead(0, 1);
         x.hour();
         Due.is("again(1)", x.again(1), 2);
         Due.is("again(0) once more", x.again(0), 1);
-        Due.that("as it was kept still", first.equals(Due.all(x)));
+        Due.same("as it was kept still", State.all(x), first);
     }
 
     private static void nobodyIsKept() {
@@ -97,15 +93,5 @@ public final class SlotsTest {
         x.hour();
         Due.is("again(0) of nobody", x.again(0), 1);
         Due.is("about(8)", x.about(8), 0);
-    }
-
-    private static void refused() {
-        HoundLicence x = Due.under(LAW);
-        x.hour();
-        Due.refused("keep(2)", x, () -> x.keep(2), Due.UNKNOWN);
-        Due.refused("keep(-1)", x, () -> x.keep(-1), Due.UNKNOWN);
-        Due.refused("again(2)", x, () -> x.again(2), Due.UNKNOWN);
-        Due.refused("again(-1)", x, () -> x.again(-1), Due.UNKNOWN);
-        Due.refused("again(32)", x, () -> x.again(32), Due.UNKNOWN);
     }
 }

@@ -6,6 +6,7 @@ final class Due {
 
     private static int asked = 0;
     private static int wrong = 0;
+    private static String sentence = "";
 
     private Due() {
     }
@@ -14,12 +15,29 @@ final class Due {
         asked++;
         if (got != want) {
             wrong++;
-            System.out.println(call + " answered " + got + ", due is " + want);
+            System.out.println(sentence + call + " answered " + got + ", due is " + want);
         }
     }
 
     static void that(String what, boolean holds) {
         is(what, holds ? 1 : 0, 1);
+    }
+
+    static void same(String what, String got, String want) {
+        asked++;
+        if (!got.equals(want)) {
+            wrong++;
+            System.out.println(sentence + what + ": " + got + ", due is " + want);
+        }
+    }
+
+    /** The test of one sentence of the document: what is wrong in it is told with that sentence. */
+    static void edge(String told, Runnable test) {
+        int before = asked;
+        sentence = "(" + told + ") ";
+        test.run();
+        that("asks something", asked > before);
+        sentence = "";
     }
 
     static void write(HoundLicence x, String text) {
@@ -28,10 +46,16 @@ final class Due {
         }
     }
 
-    /** A new object under a law. */
-    static HoundLicence under(String text) {
+    /** A new object with a text. */
+    static HoundLicence written(String text) {
         HoundLicence x = new HoundLicence();
         write(x, text);
+        return x;
+    }
+
+    /** A new object under a law. */
+    static HoundLicence under(String text) {
+        HoundLicence x = written(text);
         that("ordain() of " + text, x.ordain() >= 0);
         return x;
     }
@@ -42,33 +66,17 @@ final class Due {
         }
     }
 
-    /** All that can be asked without changing anything, in one text. */
-    static String all(HoundLicence x) {
-        StringBuilder out = new StringBuilder();
-        for (int what = 0; what <= 10; what++) {
-            out.append(x.about(what)).append(' ');
+    static void leads(HoundLicence x, int dog, int way, int n) {
+        for (int i = 0; i < n; i++) {
+            x.lead(dog, way);
         }
-        for (int dog = 0; dog < 4; dog++) {
-            for (int what = 0; what <= 5; what++) {
-                out.append(x.dog(dog, what)).append(' ');
-            }
-        }
-        for (int man = 0; man < 5; man++) {
-            for (int what = 0; what <= 4; what++) {
-                out.append(x.man(man, what)).append(' ');
-            }
-            out.append(x.sure(man)).append(' ');
-        }
-        long seed = x.seed(0);
-        x.seed(seed);
-        return out.append(x.fault()).append(' ').append(x.walks()).append(' ').append(seed).toString();
     }
 
-    /** A call that must be refused with this answer, and change nothing. */
-    static void refused(String call, HoundLicence x, java.util.function.LongSupplier made, long want) {
-        String before = all(x);
-        is(call, made.getAsLong(), want);
-        that("nothing is changed by " + call, before.equals(all(x)));
+    /** The answers that are due to a question by its last argument, 0, 1, .. */
+    static void row(String call, java.util.function.IntUnaryOperator asks, int... due) {
+        for (int i = 0; i < due.length; i++) {
+            is(call.replace("#", "" + i), asks.applyAsInt(i), due[i]);
+        }
     }
 
     static void end() {
